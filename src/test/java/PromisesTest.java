@@ -562,6 +562,13 @@ public final class PromisesTest {
         is("24: m", x.century(0, 100, 0), OUTSIDE);
         is("24: what", x.century(0, 1, -1), OUTSIDE);
         is("24: what", x.century(0, 1, 3), OUTSIDE);
+        PoorTurns late = new PoorTurns();
+        for (int year = 0; year < 99; year++) {
+            late.say('.');
+            late.done();
+        }
+        is("24: year 99", late.told(1), 4);
+        is("24: no year behind 99", late.century(0, 2, 1), 0);
         is("24: edges", x.century(9999, 99, 0) >= 0 ? 1 : 0, 1);
     }
 
