@@ -441,7 +441,7 @@ public final class PoorTurns {
         boolean beginnerMoves = true;
         for (int turn = 0; turn <= MOST && less > 0; turn++) {
             // Who may take more than once the less heap chooses who meets what is left of the greater one.
-            if (greater / less >= 2 || greater % less == 0) {
+            if (greater / less >= 2) {
                 return beginnerMoves;
             }
             int rest = greater - less;

@@ -260,9 +260,32 @@ public final class ModelTest {
         }
     }
 
+    /** Many kin, few orders; small gifts, many groups. */
+    private static void sweepPairs(Due due, long seed) {
+        Random random = new Random(seed);
+        PoorTurns x = new PoorTurns();
+        Model m = new Model();
+        int share = 1 + random.nextInt(9);
+        for (int pair = 0; pair < 64; pair++) {
+            int one = pair / 8;
+            int other = pair % 8;
+            boolean is = random.nextInt(10) < share;
+            int v = random.nextInt(3) == 0 ? random.nextInt(share) : 0;
+            due.is("kin " + seed, x.kin(one, other, is), m.kin(one, other, is));
+            due.is("gave " + seed, x.gave(one, other, v), m.gave(one, other, v));
+        }
+        for (int what = 0; what < 2; what++) {
+            due.is("orders " + seed, x.orders(what), m.orders(what));
+            due.is("even " + seed, x.even(what), m.even(what));
+        }
+    }
+
     public static void main(String[] args) {
         Due due = new Due();
         sweep(due);
+        for (int seed = 0; seed < 300; seed++) {
+            sweepPairs(due, seed);
+        }
         for (int seed = 0; seed < 600; seed++) {
             new ModelTest(due, seed).run();
         }

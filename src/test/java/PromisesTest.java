@@ -408,6 +408,13 @@ public final class PromisesTest {
         x.kin(0, 7, false);
         is("16: one neighbour alone", x.orders(0), 1440);
         is("16: one neighbour alone", x.orders(1), 7123456);
+        PoorTurns ends = new PoorTurns();
+        for (int other = 0; other < 8; other++) {
+            ends.kin(1, other, other != 2);
+            ends.kin(3, other, other != 4);
+        }
+        is("16: 1 and 3 at the ends", ends.orders(0), 48);
+        is("16: 1 and 3 at the ends", ends.orders(1), 12056743);
         is("16: outside", x.orders(-1), OUTSIDE);
         is("16: outside", x.orders(2), OUTSIDE);
     }
