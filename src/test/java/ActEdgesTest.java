@@ -25,6 +25,55 @@ public final class ActEdgesTest {
         due.is("A^H^H_", Make.with("A^H^H_").parish(0), 1);
     }
 
+    static void eachHouseGoesInAndComesOut(Due due) {
+        for (int house = 0; house < 8; house++) {
+            PoorTurns x = Make.with((char) ('A' + house) + "^");
+            due.is("in " + house, x.parish(0), 1 << house);
+            Make.write(x, (char) ('A' + house) + "_");
+            due.is("out " + house, x.parish(0), 0);
+        }
+    }
+
+    /** Whatever was given, told as one number: 1000 for the giver, 100 for the other one, and how much. */
+    private static int accounts(PoorTurns x) {
+        int sum = 0;
+        for (int one = 0; one < 8; one++) {
+            for (int other = 0; other < 8; other++) {
+                int much = x.told(100 + 10 * one + other);
+                sum += much == 0 ? 0 : 10000 + 1000 * one + 100 * other + much;
+            }
+        }
+        return sum;
+    }
+
+    static void eachHouseGivesEachOtherOne(Due due) {
+        for (int pair = 0; pair < 64; pair++) {
+            int one = pair / 8;
+            int other = pair % 8;
+            if (one != other) {
+                PoorTurns x = rich(other, 50, 1);
+                Make.write(x, (char) ('A' + one) + ">" + (char) ('A' + other) + "7").done();
+                due.is("given " + pair, accounts(x), 10000 + 1000 * one + 100 * other + 7);
+                due.is("the giver " + pair, x.told(10 + one), 43);
+                due.is("the other one " + pair, x.told(10 + other), 57);
+            }
+        }
+    }
+
+    static void eachTwoChangePlaces(Due due) {
+        for (int pair = 0; pair < 64; pair++) {
+            int one = pair / 8;
+            int other = pair % 8;
+            if (one != other) {
+                PoorTurns x = Make.with("x" + (char) ('A' + one) + (char) ('A' + other));
+                for (int house = 0; house < 8; house++) {
+                    int place = house == one ? other : house == other ? one : house;
+                    due.is("place " + pair, x.behind(house, 2), place);
+                }
+            }
+        }
+    }
+
     static void wealthOfTheOtherOneIs999AtMost(Due due) {
         int[][] wealth = {{989, 998}, {990, 999}, {991, 999}, {998, 999}, {999, 999}};
         for (int[] w : wealth) {

@@ -24,16 +24,21 @@ public final class RoomTest {
         Due due = new Due();
         long sum = callAll(new PoorTurns(), 1);
         made();
-        long before = made();
-        PoorTurns x = new PoorTurns();
-        long forObject = made() - before;
-        before = made();
-        for (int i = 0; i < 512; i++) {
-            sum += callAll(x, i);
+        long forObjects = 0;
+        long forCalls = 0;
+        for (int round = 0; round < 30; round++) {
+            long before = made();
+            PoorTurns x = new PoorTurns();
+            forObjects = Math.max(forObjects, made() - before);
+            before = made();
+            // 18 times 28 calls: an object is promised for 512.
+            for (int i = 0; i < 18; i++) {
+                sum += callAll(x, 18 * round + i);
+            }
+            forCalls = Math.max(forCalls, made() - before);
         }
-        long forCalls = made() - before;
-        System.out.println("an object " + forObject + " bytes, 512 times all calls " + forCalls + " (" + sum + ")");
-        due.holds("an object is small", forObject < 40000);
+        System.out.println("an object " + forObjects + " bytes, its calls " + forCalls + " (" + sum + ")");
+        due.holds("an object is small", forObjects < 40000);
         due.holds("calls make nothing", forCalls < 4096);
         due.end();
     }

@@ -189,6 +189,18 @@ public final class YearEdgesTest {
         due.is("less is less", x.parish(4), 2);
     }
 
+    static void whoHasLeastMayBeAtAnyPlace(Due due) {
+        int[] row = {3, 0, 7, 1, 5, 2, 6, 4};
+        for (int place = 0; place < 8; place++) {
+            PoorTurns x = new PoorTurns();
+            x.map(30715264, 0);
+            x.house(row[place], 49, 0);
+            due.is("alone at " + place, x.parish(4), row[place]);
+            x.house(row[7], 49, 0);
+            due.is("with the last one, at " + place, x.parish(4), row[place]);
+        }
+    }
+
     static void theMapThatCountsIsTheOneBehindTheText(Due due) {
         due.is("xAH", Make.with("xAH").parish(4), 7);
         due.is("xAHxAH", Make.with("xAHxAH").parish(4), 0);
