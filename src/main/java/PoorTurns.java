@@ -518,6 +518,14 @@ public final class PoorTurns {
             inside = is ? inside | 1 << house : inside & ~(1 << house);
         }
 
+        private int wealthOf(int house) {
+            return house >= 0 && house < HOUSES ? wealth[house] : 0;
+        }
+
+        private int houseAtNext() {
+            return next >= 0 && next < HOUSES ? row[next] : row[0];
+        }
+
         private int rowNumber() {
             int number = 0;
             for (int place = 0; place < HOUSES; place++) {
@@ -554,7 +562,7 @@ public final class PoorTurns {
         private int poorest() {
             int least = row[0];
             for (int place = 1; place < HOUSES; place++) {
-                if (wealth[row[place]] < wealth[least]) {
+                if (wealthOf(row[place]) < wealthOf(least)) {
                     least = row[place];
                 }
             }
@@ -592,7 +600,7 @@ public final class PoorTurns {
             if (isIn(one) || !isIn(other)) {
                 return 3;
             }
-            return wealth[one] < much ? 4 : ALLOWED;
+            return wealthOf(one) < much ? 4 : ALLOWED;
         }
 
         private void perform(int kind, int one, int other, int much) {
@@ -616,6 +624,9 @@ public final class PoorTurns {
         }
 
         private void hand(int one, int other, int much) {
+            if (one < 0 || one >= HOUSES || other < 0 || other >= HOUSES) {
+                return;
+            }
             wealth[one] -= much;
             wealth[other] = Math.min(wealth[other] + much, MOST);
             int account = one * HOUSES + other;
@@ -633,7 +644,7 @@ public final class PoorTurns {
         }
 
         private void passYear() {
-            inside = 1 << row[next];
+            inside = 1 << houseAtNext();
             next = (next + 1) % HOUSES;
             year++;
         }
@@ -854,7 +865,7 @@ public final class PoorTurns {
             begin(from);
             for (int act = 0; act < pad.acts && act < PAD_SIGNS; act++) {
                 int kind = pad.kinds[act];
-                int comer = kind == YEAR ? parish.row[parish.next] : pad.ones[act];
+                int comer = kind == YEAR ? parish.houseAtNext() : pad.ones[act];
                 int why = attempt(kind, pad.ones[act], pad.others[act], pad.amounts[act]);
                 if (why != ALLOWED) {
                     wrongAct = act;
@@ -915,11 +926,11 @@ public final class PoorTurns {
         }
 
         private int groups() {
-            return mostGroups[owing];
+            return mostGroups[owing & EVERYONE];
         }
 
         private int payments() {
-            return Integer.bitCount(owing) - mostGroups[owing];
+            return Integer.bitCount(owing) - groups();
         }
     }
 
@@ -1024,8 +1035,10 @@ public final class PoorTurns {
             int most = 0;
             for (int i = 0; i < size && i < ALL_SETS && most < limit; i++) {
                 int were = Integer.bitCount(fitting[i] & set);
-                leftBy[were]++;
-                most = Math.max(most, leftBy[were]);
+                if (were <= HOUSES) {
+                    leftBy[were]++;
+                    most = Math.max(most, leftBy[were]);
+                }
             }
             return most;
         }
